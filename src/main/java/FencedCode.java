@@ -604,7 +604,7 @@ public final class FencedCode {
                 program.addresses[n] = at;
                 at = linePlace(program, n, at);
                 program.starts[n] = at;
-                at += sizeOf(program.kindAt(n));
+                at += bytesOf(program.kindAt(n));
             }
             at = targetPlace(program, lines, at);
             program.addresses[lines] = at;
@@ -617,7 +617,7 @@ public final class FencedCode {
         }
 
         private static int linePlace(Program program, int n, int at) {
-            int size = sizeOf(program.kindAt(n));
+            int size = bytesOf(program.kindAt(n));
             if (endsBundle(program.kindAt(n), program.firstAt(n))) {
                 return nextWith(BUNDLE - size, at);
             }
@@ -635,7 +635,7 @@ public final class FencedCode {
             return here >= at ? here : here + BUNDLE;
         }
 
-        private static int sizeOf(int kind) {
+        private static int bytesOf(int kind) {
             switch (kind) {
                 case LW:
                 case SW:

@@ -126,6 +126,26 @@ public final class RunTest {
         stands("JAL far away", x, 1, 48 - 1048576);
     }
 
+    private static void offsets() {
+        for (int bit = 1; bit <= 20; bit++) {
+            for (int o : new int[] {bit == 20 ? -(1 << 20) : 1 << bit, -(1 << bit), (1 << bit) - 2, 2 - (1 << bit)}) {
+                FencedCode x = Due.code(64, e(11, 0, o, 0));
+                x.run(1);
+                stands("JAL by " + o, x, 1, 48 + o);
+                if (o >= -4096 && o <= 4094) {
+                    x = Due.code(64, e(8, 0, 0, o));
+                    x.run(1);
+                    stands("BEQ by " + o, x, 1, 48 + o);
+                }
+                if (o >= -2048 && o <= 2046) {
+                    x = Due.code(64, e(12, 0, 0, o));
+                    x.run(1);
+                    stands("JALR by " + o, x, 1, o);
+                }
+            }
+        }
+    }
+
     private static void nowhere() {
         for (int to = -2; to <= 100; to += 2) {
             FencedCode x = Due.code(96, e(11, 0, to - 48, 0));
@@ -306,6 +326,7 @@ public final class RunTest {
         arithmetics();
         branches();
         jumps();
+        offsets();
         nowhere();
         illegal();
         data();
