@@ -172,6 +172,10 @@ final class CheckSentences extends Sentences {
         ways("to itself", RIGHT, 64, 64);
         ways("to the last one", RIGHT, 48, 92);
         ways("to the code's end", 48, 48, 96);
+        FencedCode shorter = Due.code(96, e(JAL, 0, 32, 0));
+        is("to 80 of 96", shorter.check(), RIGHT);
+        shorter.length(80);
+        is("to 80 of 80, where there was one before", shorter.check(), 48);
         ways("to a half", RIGHT, 64, 50, HALF_NOP, HALF_NOP);
         ways("into a word", 64, 64, 52, HALF_NOP, NOP, HALF_NOP);
         ways("as far back as a branch can", 48, 48, 48 - 4096);

@@ -14,8 +14,16 @@ final class Document {
     private final Map<String, String> texts = new LinkedHashMap<>();
     private final Map<String, BitSet> quoted = new LinkedHashMap<>();
 
+    /** Without the document its sentences are tested all the same, but the quotes are not compared. */
+    private boolean isThere = false;
+
     static Document read() throws IOException {
         Document document = new Document();
+        if (!Files.exists(PLACE)) {
+            System.out.println("no " + PLACE + ": quotes are not compared with it");
+            return document;
+        }
+        document.isThere = true;
         for (String part : ("\n" + Files.readString(PLACE)).split("\n## ")) {
             int end = part.indexOf('\n');
             String name = part.substring(0, end).split(":")[0].trim();
@@ -29,6 +37,9 @@ final class Document {
 
     /** Notes that a test holds these words; false if they do not stand just once in that section. */
     boolean quote(String section, String words) {
+        if (!isThere) {
+            return true;
+        }
         String text = texts.getOrDefault(section, "");
         int at = text.indexOf(words);
         if (words.isEmpty() || at < 0 || at != text.lastIndexOf(words)) {

@@ -70,6 +70,23 @@ final class InstructionsSentences extends Sentences {
         for (int n = 0; n < 8; n++) {
             is("SUB with three bits " + n, new FencedCode().kind(32 << 25 | n << 12 | 51), n == 0 ? 1 : BAD);
         }
+        for (int s : new int[] {LOW, -77, 0, 5, HIGH}) {
+            for (int t : new int[] {LOW, -1, 0, 6, HIGH}) {
+                computes(ADD, s, t, s + t);
+                computes(SUB, s, t, s - t);
+                computes(AND, s, t, s & t);
+                computes(OR, s, t, s | t);
+            }
+        }
+    }
+
+    /** Register 7 gets what is due, and so does a register that is also s, or t. */
+    private void computes(int kind, int s, int t, int want) {
+        for (int d = 5; d <= 7; d++) {
+            FencedCode x = codeWith(s, t, e(kind, d, 5, 6));
+            is("run(5)", x.run(5), 0);
+            is("kind " + kind + " of " + s + ", " + t + " to " + d, x.register(RUN, d), want);
+        }
     }
 
     void addNumber() {
@@ -150,6 +167,19 @@ final class InstructionsSentences extends Sentences {
                 refuses(kind, 1, 2, o);
             }
         }
+        for (int s : new int[] {LOW, -1, 0, 1, HIGH}) {
+            for (int t : new int[] {LOW, -1, 0, 1, HIGH}) {
+                branchesIf(BEQ, s, t, s == t);
+                branchesIf(BNE, s, t, s != t);
+                branchesIf(BLT, s, t, s < t);
+            }
+        }
+    }
+
+    private void branchesIf(int kind, int s, int t, boolean goes) {
+        FencedCode x = codeWith(s, t, e(kind, 5, 6, -16));
+        is("run(5)", x.run(5), 0);
+        stands("kind " + kind + " of " + s + ", " + t, x, RUN, 5, goes ? 48 : 68);
     }
 
     void jump() {

@@ -187,6 +187,9 @@ final class WritingSentences extends Sentences {
         is("over a longer code", x.build(), 64);
         codeIs("over a longer code", x, e(C_ADDI, 1, 1, 0), HALF_NOP, NOP, NOP, NOP);
         is("peek(64)", x.peek(64), BAD);
+        for (int i = 0; i < 48; i++) {
+            is("nothing comes out for byte " + i, x.peek(i), 0);
+        }
         x.length(10);
         is("over a shorter code", x.build(), 64);
         codeIs("over a shorter code", x, e(C_ADDI, 1, 1, 0), HALF_NOP, NOP, NOP, NOP);
