@@ -362,12 +362,14 @@ public final class FencedCode {
         }
 
         private static int shortKindOf(int bits) {
-            boolean noD = lowRegister(bits) == 0;
+            boolean noD = (bits & 0x0F80) == 0;
+            boolean noT = (bits & 0x007C) == 0;
             if ((bits & 0xE003) == 1) {
-                return noD == (shortNumber(bits) == 0) ? C_ADDI : BAD;
+                boolean noNumber = noT && (bits & 0x1000) == 0;
+                return noD == noNumber ? C_ADDI : BAD;
             }
             boolean isMove = (bits & 0xF003) == 0x8002;
-            return isMove && !noD && shortRegister(bits) != 0 ? C_MV : BAD;
+            return isMove && !noD && !noT ? C_MV : BAD;
         }
 
         private static int lowRegister(int bits) {
@@ -778,9 +780,13 @@ public final class FencedCode {
 
     /** Judges bytes alone: it has nothing of the rewriter and of its programs. */
     private static final class Checker {
+        /** All bits of AND but those of its s. */
+        private static final int BUT_S = ~(31 << 15);
+
         private final Code code;
         private final int dataMasked = Format.pack(AND, FENCED, FENCED, DATA_MASK);
         private final int dataBased = Format.pack(OR, FENCED, FENCED, DATA_BASE);
+        private final int codeMasked = Format.pack(AND, FENCED, 0, CODE_MASK);
         /** The instruction that begins at an address; 0, which is none, where none does. */
         private final int[] begun = new int[CODE_MOST];
 
@@ -861,9 +867,8 @@ public final class FencedCode {
             return before(at, 8) == dataMasked && before(at, 4) == dataBased;
         }
 
-        private static boolean isCodeMask(int bits) {
-            return Format.kindOf(bits) == AND && Format.firstOf(AND, bits) == FENCED
-                    && Format.thirdOf(AND, bits) == CODE_MASK;
+        private boolean isCodeMask(int bits) {
+            return (bits & BUT_S) == codeMasked;
         }
 
         /** What stands behind a mask is reached through that mask alone. */
