@@ -460,14 +460,14 @@ public final class FencedCode {
 
     /** A row of lines, and where the latest layout put them. */
     private static final class Program {
-        final int[] kinds = new int[LINES_MOST];
-        final int[] as = new int[LINES_MOST];
-        final int[] bs = new int[LINES_MOST];
-        final int[] cs = new int[LINES_MOST];
+        private final int[] kinds = new int[LINES_MOST];
+        private final int[] as = new int[LINES_MOST];
+        private final int[] bs = new int[LINES_MOST];
+        private final int[] cs = new int[LINES_MOST];
         /** Before a line's own padding: where a jump to it leads. */
-        final int[] addresses = new int[LINES_MOST + 1];
+        private final int[] addresses = new int[LINES_MOST + 1];
         /** Behind a line's own padding. */
-        final int[] starts = new int[LINES_MOST];
+        private final int[] starts = new int[LINES_MOST];
         int count = 0;
         int codeEnd = 0;
 
@@ -531,6 +531,18 @@ public final class FencedCode {
 
         int startAt(int n) {
             return has(n, count) ? starts[n] : BAD;
+        }
+
+        void placeTarget(int target, int at) {
+            if (within(target, 0, LINES_MOST)) {
+                addresses[target] = at;
+            }
+        }
+
+        void placeLine(int n, int at) {
+            if (has(n, LINES_MOST)) {
+                starts[n] = at;
+            }
         }
 
         int addressOf(int target) {
@@ -599,17 +611,16 @@ public final class FencedCode {
     private static final class Layout {
         /** How many bytes the code would have. */
         static int place(Program program) {
-            int lines = Math.min(program.count, LINES_MOST);
             int at = CODE_BEGIN;
-            for (int n = 0; n < lines; n++) {
+            for (int n = 0; n < program.count; n++) {
                 at = targetPlace(program, n, at);
-                program.addresses[n] = at;
+                program.placeTarget(n, at);
                 at = linePlace(program, n, at);
-                program.starts[n] = at;
+                program.placeLine(n, at);
                 at += bytesOf(program.kindAt(n));
             }
-            at = targetPlace(program, lines, at);
-            program.addresses[lines] = at;
+            at = targetPlace(program, program.count, at);
+            program.placeTarget(program.count, at);
             program.codeEnd = at - at % BUNDLE + BUNDLE;
             return program.codeEnd;
         }

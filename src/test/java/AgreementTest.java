@@ -1,4 +1,10 @@
-/** A trial that stays within the program and the data does what the machine does with the built code. */
+import java.util.ArrayList;
+import java.util.List;
+
+/**
+ * A trial is as in TrialModel, and one that stays within the program and the data does what the machine does with
+ * the built code.
+ */
 public final class AgreementTest {
     private static final Due due = new Due();
 
@@ -15,19 +21,35 @@ public final class AgreementTest {
         }
     }
 
+    private static int trial(String round, FencedCode x, int[] lines, List<Integer> inputs, int fuel) {
+        int[] addresses = new int[lines.length / 4 + 1];
+        for (int target = 0; target < addresses.length; target++) {
+            addresses[target] = x.address(target);
+        }
+        TrialModel model = new TrialModel(lines, addresses, inputs);
+        int end = x.trial(fuel);
+        due.is(round + ": trial(" + fuel + ")", end, model.go(fuel));
+        model.compare(due, round + ": trial(" + fuel + ")", x, 1);
+        return end;
+    }
+
     public static void main(String[] args) {
         Due.Dice dice = new Due.Dice(14);
         int[] ends = new int[6];
         for (int round = 0; round < 30000; round++) {
             int count = dice.between(1, 14);
-            FencedCode x = Due.lines(RandomProgram.make(dice, count, count));
+            int[] lines = RandomProgram.make(dice, count, count);
+            FencedCode x = Due.lines(lines);
+            List<Integer> inputs = new ArrayList<>();
             for (int n = dice.below(5); n > 0; n--) {
-                x.input(dice.below(2) == 0 ? dice.bits() : dice.below(200));
+                inputs.add(dice.below(2) == 0 ? dice.bits() : dice.below(200));
+                x.input(inputs.get(inputs.size() - 1));
             }
             if (x.build() < 0) {
                 continue;
             }
-            int end = x.trial(100);
+            trial("round " + round, x, lines, inputs, dice.below(12));
+            int end = trial("round " + round, x, lines, inputs, 100);
             ends[end]++;
             if (end == 1 || end == 2) {
                 due.is("round " + round + ": run", x.run(2000), end);

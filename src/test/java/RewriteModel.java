@@ -89,7 +89,7 @@ final class RewriteModel {
     }
 
     private void put(int kind, int a, int b, int c) {
-        put(new FencedCode().encode(kind, a, b, c), kind >= 13 ? 2 : 4);
+        put(FaceModel.encode(kind, a, b, c), kind >= 13 ? 2 : 4);
     }
 
     private void line(int n) {

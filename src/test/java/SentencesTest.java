@@ -1,10 +1,11 @@
-/** Each sentence of the terms and of promises 1 to 18 has a test of its own, and all of them are quoted. */
+/** Each sentence of the document, up to what is not promised, has a test of its own, and all of them are quoted. */
 public final class SentencesTest {
     public static void main(String[] args) throws Exception {
         Due due = new Due();
         Document document = Document.read();
         Sentences[] all = {
-            new RegistersSentences(document, due), new InstructionsSentences(document, due),
+            new FaceSentences(document, due), new RegistersSentences(document, due),
+            new InstructionsSentences(document, due),
             new ProgramsSentences(document, due), new RewritingSentences(document, due),
             new CheckSentences(document, due), new MachineSentences(document, due),
             new TrialSentences(document, due), new WritingSentences(document, due),
@@ -12,7 +13,9 @@ public final class SentencesTest {
         for (Sentences some : all) {
             some.holdAll();
         }
-        everyWordIsQuoted(due, document, "Terms");
+        for (String section : new String[] {"What it is", "The public face", "Terms"}) {
+            everyWordIsQuoted(due, document, section);
+        }
         for (int number = 1; number <= 18; number++) {
             everyWordIsQuoted(due, document, "Promise " + number);
         }

@@ -5,14 +5,9 @@ import java.util.List;
  * A slow second reading of the document's INSTRUCTIONS, CHECK and MACHINE, to compare: instructions are texts
  * like "AND 31 31 29", made from their bits as a row of digits, and rules compare texts.
  */
-final class TextModel {
+final class TextModel extends Outcome {
     private final int[] bytes;
     private final List<Integer> inputs;
-    final int[] registers = new int[32];
-    final int[] data = new int[16];
-    final List<Integer> outputs = new ArrayList<>();
-    int steps;
-    int place;
 
     TextModel(int[] bytes, List<Integer> inputs) {
         this.bytes = bytes;
@@ -205,16 +200,9 @@ final class TextModel {
             case "JAL": registers[a] = next; place = from + b; break;
             case "JALR": place = registers[b] + c & -2; registers[a] = next; break;
             default:
-                int address = registers[b] + c;
-                if (address < 4096 || address > 4156 || address % 4 != 0) {
+                if (!moves(words[0].equals("LW"), a, registers[b] + c)) {
                     place = from;
                     return false;
-                }
-                int word = (address - 4096) / 4;
-                if (words[0].equals("LW")) {
-                    registers[a] = data[word];
-                } else {
-                    data[word] = registers[a];
                 }
         }
         return true;
