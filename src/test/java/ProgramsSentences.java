@@ -43,6 +43,11 @@ final class ProgramsSentences extends Sentences {
         is("build()", x.build(), 96);
         is("trial(99)", x.trial(99), 2);
         is("register(1, 1)", x.register(TRIAL, 1), 20);
+        FencedCode last = halves(19);
+        is("the last line too", last.line(CALL, EXIT, 0, 0), 20);
+        is("build()", last.build(), 112);
+        is("ends with a bundle", Due.bitsAt(last, 92), e(JAL, 1, 32 - 92, 0));
+        is("address(20)", last.address(20), 96);
         is("clear()", x.clear(), 20);
     }
 
